@@ -1259,15 +1259,16 @@ public final class ClothesLine {
         }
 
         private boolean readArguments(Line line) {
+            int lastGarment = line.garmentCount - 1;
             switch (command) {
                 case ADD_GARMENT:
                     return readNumber(0, 1, WIDEST) && readNumber(1, 1, HEAVIEST)
                             && readNumber(2, 1, LARGEST_CAPACITY) && readNumber(3, 0, arguments[2]);
                 case HANG_UP:
-                    return readGarment(line) && readNumber(1, 0, SPOTS - 1)
+                    return readNumber(0, 0, lastGarment) && readNumber(1, 0, SPOTS - 1)
                             && readNumber(2, 0, MOST_PEGS) && readNumber(3, 0, MOST_PEGS);
                 case MOVE:
-                    return readGarment(line) && readNumber(1, 0, SPOTS - 1);
+                    return readNumber(0, 0, lastGarment) && readNumber(1, 0, SPOTS - 1);
                 case SHOWER:
                     return readNumber(0, 0, LATEST_START) && readNumber(1, 1, LONGEST_SHOWER)
                             && readNumber(2, 1, STRONGEST_SHOWER);
@@ -1278,12 +1279,8 @@ public final class ClothesLine {
                 case PASS:
                     return readNumber(0, 1, LONGEST_PASS);
                 default:
-                    return readGarment(line);
+                    return readNumber(0, 0, lastGarment);
             }
-        }
-
-        private boolean readGarment(Line line) {
-            return readNumber(0, 0, line.garmentCount - 1);
         }
 
         /** Executes the command; false, and nothing done, if its method would throw an IllegalStateException. */
