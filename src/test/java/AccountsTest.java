@@ -5,6 +5,7 @@ public final class AccountsTest {
     public static void main(String[] args) {
         promises39To43();
         rainOverTheCapacity();
+        thinRain();
         sunBeforeWind();
         promise44MeanWater();
         promise45DryShare();
@@ -47,6 +48,12 @@ public final class AccountsTest {
         accounts("rain to the capacity", line, 50, 50, 0, 0);
         line.passMinutes(1);
         accounts("sun 3 and wind 5", line, 42, 50, 3, 5);
+    }
+
+    private static void thinRain() {
+        ClothesLine line = Due.lineOf("line 9 9 0;wind 5;garment 3 1 50 40;hang 0 0 0 1;shower 0 1 1;");
+        line.passMinutes(1);
+        accounts("rain 1 on 3 spots, without sun and wind", line, 43, 43, 0, 0);
     }
 
     private static void sunBeforeWind() {

@@ -51,12 +51,34 @@ public final class ChangesTest {
         for (int[] w : wrong) {
             refused(line, "addGarment the 11th, wrong", NO_ARGUMENT, () -> line.addGarment(w[0], w[1], w[2], w[3]));
         }
+        nothingOfAnOldGarment();
         ClothesLine again = new ClothesLine();
         again.hang(3, 20, 1, 0);
         again.undo();
         Due.load(again, "line 9 9 0;wind 0;garment 1 1 1 1;garment 1 1 1 1;garment 1 1 1 1;");
         again.addGarment(2, 3, 4, 1);
         DUE.is("a new garment has nothing of an old one", again.spotOf(3) * 10 + again.freeSpots(), 0xFFFFFF - 10);
+    }
+
+    private static void nothingOfAnOldGarment() {
+        ClothesLine line = Due.lineOf("line 9 9 0;wind 3;shower 5 4 20;smoke 0 99;");
+        line.addGarment(2, 9, 900, 80);
+        String first = Due.seen(line);
+        line.hang(0, 0, 1, 0);
+        line.passMinutes(20);
+        DUE.is("the old one fell", line.fallsOf(0), 1);
+        line.undo();
+        line.undo();
+        line.undo();
+        line.addGarment(2, 9, 900, 80);
+        DUE.same("a new one is as the old one was", Due.seen(line), first);
+        line.hang(0, 0, 1, 0);
+        line.passMinutes(20);
+        Due.load(line, "line 9 9 0;wind 3;shower 5 4 20;smoke 0 99;garment 2 9 900 80;");
+        line.passMinutes(1);
+        line.undo();
+        DUE.is("as it was, but for the undo", line.smellOf(0) + line.fallsOf(0) + line.driedBySun() + line.driedByWind(), 0);
+        DUE.is("clean", line.isDirty(0), false);
     }
 
     private static void promise52Hang() {
@@ -158,6 +180,9 @@ public final class ChangesTest {
         for (int garment : NO_GARMENTS) {
             refused(line, "shift " + garment, NO_INDEX, () -> line.shift(garment, 24));
         }
+        ClothesLine small = Due.lineOf("line 9 9 0;wind 0;garment 1 1 1 0;hang 0 5 1 0;");
+        DUE.is("shift to 23", small.shift(0, 23), 5);
+        DUE.is("shift to 0", small.shift(0, 0), 23);
         ClothesLine fallen = twoFallen();
         refused(fallen, "shift on the ground", NO_STATE, () -> fallen.shift(0, 9));
     }

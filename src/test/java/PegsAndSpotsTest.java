@@ -91,6 +91,9 @@ public final class PegsAndSpotsTest {
             DUE.is("garmentByPlace " + place, line.garmentByPlace(place), -1);
         }
         DUE.is("garmentByPlace of none", Due.lineOf("line 0 0 0;wind 0;garment 1 1 1 1;").garmentByPlace(0), -1);
+        ClothesLine small = Due.lineOf("line 9 9 0;wind 0;garment 1 1 1 0;garment 1 1 1 0;hang 1 0 1 0;hang 0 23 1 0;");
+        DUE.is("at the first spot", small.garmentByPlace(0), 1);
+        DUE.is("at the last spot", small.garmentByPlace(1), 0);
         ClothesLine side = Due.lineOf("line 9 9 0;wind 0;garment 2 1 1 0;garment 3 1 1 0;hang 1 2 1 0;hang 0 0 1 0;");
         DUE.is("side by side 0", side.garmentByPlace(0), 0);
         DUE.is("side by side 1", side.garmentByPlace(1), 1);

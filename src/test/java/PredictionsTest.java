@@ -9,6 +9,7 @@ public final class PredictionsTest {
         promise46WaterAfter();
         promise47MinutesToDry();
         promise48MinutesToFall();
+        promise48OneFallsAndOneDoesNot();
         promise49GarmentsAtRisk();
         promise50BestSpot();
         predictionsComeTrue();
@@ -67,6 +68,16 @@ public final class PredictionsTest {
 
     private static ClothesLine late(int start) {
         return Due.lineOf("line 9 9 24;wind 0;garment 1 20 99 0;hang 0 4 1 0;shower " + start + " 1 10;");
+    }
+
+    /** Each garment is predicted alone, whatever was predicted before. */
+    private static void promise48OneFallsAndOneDoesNot() {
+        ClothesLine line = Due.lineOf("line 9 9 24;wind 0;garment 1 1 9 0;garment 1 20 99 0;hang 0 0 1 0;hang 1 1 1 0;"
+                + "shower 3 1 10;");
+        DUE.is("the one at risk", line.garmentsAtRisk(), 2);
+        DUE.is("the light one does not fall", line.minutesToFall(0), -1);
+        DUE.is("the heavy one falls", line.minutesToFall(1), 4);
+        DUE.is("the heavy one's water", line.waterAfter(1, 9), 10);
     }
 
     private static void promise49GarmentsAtRisk() {

@@ -15,6 +15,7 @@ public final class TextsTest {
         promise5And6ErrorsOfScripts();
         promise5And6ErrorsOfNumbers();
         promise5And6Limits();
+        promise5And6TextBefore();
         promise5And6LatestCall();
         DUE.end();
     }
@@ -68,6 +69,19 @@ public final class TextsTest {
         DUE.is("feed full and nothing", line.feed(0, 0, 0, 0, 0), 700);
         DUE.is("feed full and one", line.feed(0, 0, 0, 0, 1), -1);
         DUE.is("feed: 700 spaces", line.runScript(), 0);
+        for (int word = 0; word < 5; word++) {
+            for (int fed = 0; fed < 34; fed++) {
+                Due.feed(line, twenty);
+            }
+            Due.feed(line, twenty.substring(1));
+            int[] two = new int[5];
+            two[word] = 0x00200020;
+            DUE.is("feed two to 699 in the word " + word, line.feed(two[0], two[1], two[2], two[3], two[4]), -1);
+            DUE.is("feed stays at 699", line.feed(0, 0, 0, 0, 0), 699);
+            two[word] = 0x20;
+            DUE.is("feed one to 699 in the word " + word, line.feed(two[0], two[1], two[2], two[3], two[4]), 700);
+            line.loadSetup();
+        }
         DUE.is("feed after", line.feed(0, 0, 0, 0, 1), 1);
     }
 
@@ -204,6 +218,14 @@ public final class TextsTest {
     private static void promise5And6ErrorsOfScripts() {
         bad(false, 1, "^hangs 0 0 1 0;");
         bad(false, 1, "^ha 0 0 1 0;");
+        bad(false, 1, "^takez 0;");
+        bad(false, 1, "^atake 0;");
+        bad(false, 1, "^bake 0;");
+        bad(false, 1, "take^{0;");
+        bad(false, 1, "take^`0;");
+        bad(false, 1, "take 0^:");
+        bad(false, 1, "take 0^/;");
+        bad(false, 1, "take 0^<;");
         bad(false, 1, "^handle 0 0 1 0;");
         bad(false, 1, "^line 8 3 6;");
         bad(false, 1, "minutes 1^:");
@@ -306,6 +328,24 @@ public final class TextsTest {
         DUE.is("forty in a setup", Due.load(line, HEAD + forty), 0);
         DUE.is("ten garments", Due.load(line, HEAD + "garment 1 1 1 1;".repeat(10)), 10);
         DUE.is("four showers and smoke times", Due.run(line, "shower 1 1 1;smoke 1 1;".repeat(4)), 8);
+    }
+
+    /** What stands in the buffer behind a text, from a longer one before, is not of the text. */
+    private static void promise5And6TextBefore() {
+        ClothesLine line = new ClothesLine();
+        Due.run(line, "minutesaaaa");
+        Due.run(line, "minutes");
+        DUE.is("letters behind the text", line.errorPosition(), 7);
+        Due.run(line, "minutes 1999;");
+        Due.run(line, "minutes 1");
+        DUE.is("digits behind the text", line.errorCode() * 100 + line.errorPosition(), 109);
+        Due.run(line, "          ");
+        Due.run(line, "take 0");
+        DUE.is("spaces behind the text", line.errorPosition(), 6);
+        Due.run(line, "take 0;");
+        DUE.is("taken", line.undoCount(), 2);
+        Due.run(line, "hang 0");
+        DUE.is("a semicolon behind the text", line.errorPosition(), 6);
     }
 
     private static void promise5And6LatestCall() {

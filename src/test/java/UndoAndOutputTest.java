@@ -6,6 +6,7 @@ public final class UndoAndOutputTest {
 
     public static void main(String[] args) {
         promise61UndoOfEachChange();
+        promise61UndoOfAFall();
         promise61TheLatestEight();
         promise61WhatStays();
         promise62Save();
@@ -36,6 +37,14 @@ public final class UndoAndOutputTest {
         undone("passMinutes", line -> line.passMinutes(200));
         undone("runScript", line -> Due.run(line, "pick 0;wash 0;minutes 9;wind 1 0;shower 20 9 9;take 1;"));
         undone("an empty script", line -> Due.run(line, ""));
+    }
+
+    private static void promise61UndoOfAFall() {
+        ClothesLine line = Due.lineOf("line 9 9 0;wind 3;garment 2 9 900 80;hang 0 0 1 0;shower 5 4 20;smoke 0 99;");
+        String before = Due.seen(line);
+        DUE.is("it falls", line.passMinutes(20), 1);
+        line.undo();
+        DUE.same("the fall is undone", Due.seen(line), before);
     }
 
     private interface Change {
