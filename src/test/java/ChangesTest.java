@@ -3,7 +3,6 @@ public final class ChangesTest {
     private static final Class<IndexOutOfBoundsException> NO_INDEX = IndexOutOfBoundsException.class;
     private static final Class<IllegalArgumentException> NO_ARGUMENT = IllegalArgumentException.class;
     private static final Class<IllegalStateException> NO_STATE = IllegalStateException.class;
-    private static final int[] NO_GARMENTS = {-1, 4, 10, Integer.MIN_VALUE, Integer.MAX_VALUE};
     private static final Due DUE = new Due("ChangesTest");
 
     public static void main(String[] args) {
@@ -90,7 +89,7 @@ public final class ChangesTest {
         DUE.is("change", line.undoCount(), 1);
         refused(line, "hang twice", NO_STATE, () -> line.hang(3, 5, 1, 0));
         line.takeDown(3);
-        for (int garment : NO_GARMENTS) {
+        for (int garment : Due.NO_GARMENTS) {
             refused(line, "hang " + garment, NO_INDEX, () -> line.hang(garment, 24, 5, 5));
         }
         int[][] wrong = {{-1, 1, 0}, {24, 1, 0}, {0, -1, 0}, {0, 5, 0}, {0, 1, -1}, {0, 1, 5}};
@@ -116,7 +115,7 @@ public final class ChangesTest {
         DUE.is("bag", line.woodenLeft() * 10 + line.steelLeft(), 53);
         DUE.is("change", line.undoCount(), 1);
         refused(line, "take twice", NO_STATE, () -> line.takeDown(2));
-        for (int garment : NO_GARMENTS) {
+        for (int garment : Due.NO_GARMENTS) {
             refused(line, "take " + garment, NO_INDEX, () -> line.takeDown(garment));
         }
         ClothesLine fallen = twoFallen();
@@ -137,7 +136,7 @@ public final class ChangesTest {
         DUE.is("change", line.undoCount(), 1);
         refused(line, "pick twice", NO_STATE, () -> line.pickUp(1));
         refused(line, "pick from the line", NO_STATE, () -> line.pickUp(2));
-        for (int garment : NO_GARMENTS) {
+        for (int garment : Due.NO_GARMENTS) {
             refused(line, "pick " + garment, NO_INDEX, () -> line.pickUp(garment));
         }
         DUE.is("pick the last", line.pickUp(0), 0);
@@ -155,7 +154,7 @@ public final class ChangesTest {
         DUE.is("state", line.stateOf(0), ClothesLine.BASKET);
         DUE.is("wash again", line.wash(0), 0);
         DUE.is("changes", line.undoCount(), 3);
-        for (int garment : NO_GARMENTS) {
+        for (int garment : Due.NO_GARMENTS) {
             refused(line, "wash " + garment, NO_INDEX, () -> line.wash(garment));
         }
     }
@@ -177,7 +176,7 @@ public final class ChangesTest {
         refused(line, "shift in the basket to 24", NO_ARGUMENT, () -> line.shift(3, 24));
         refused(line, "shift to -1", NO_ARGUMENT, () -> line.shift(0, -1));
         refused(line, "shift to the largest", NO_ARGUMENT, () -> line.shift(0, Integer.MAX_VALUE));
-        for (int garment : NO_GARMENTS) {
+        for (int garment : Due.NO_GARMENTS) {
             refused(line, "shift " + garment, NO_INDEX, () -> line.shift(garment, 24));
         }
         ClothesLine small = Due.lineOf("line 9 9 0;wind 0;garment 1 1 1 0;hang 0 5 1 0;");

@@ -1,5 +1,10 @@
+import java.util.function.IntConsumer;
+
 /** Compares answers with those that are due, prints each that is not, and ends with exit code 1 if there was one. */
 final class Due {
+    /** Indices that no garment of a new line has. */
+    static final int[] NO_GARMENTS = {-1, 4, 10, Integer.MIN_VALUE, Integer.MAX_VALUE};
+
     private final String test;
     private int asked;
     private int wrong;
@@ -36,6 +41,12 @@ final class Due {
             if (e.getClass() != want) {
                 miss(call + " threw " + e + ", due is " + want.getSimpleName());
             }
+        }
+    }
+
+    void throwsForNoGarment(String call, IntConsumer asked) {
+        for (int garment : NO_GARMENTS) {
+            throwsIt(call + " " + garment, IndexOutOfBoundsException.class, () -> asked.accept(garment));
         }
     }
 

@@ -1,8 +1,5 @@
-import java.util.function.IntConsumer;
-
 /** Promises 21 to 38: garments. */
 public final class GarmentsTest {
-    private static final int[] NO_GARMENTS = {-1, 4, 10, Integer.MIN_VALUE, Integer.MAX_VALUE};
     private static final Due DUE = new Due("GarmentsTest");
 
     public static void main(String[] args) {
@@ -187,7 +184,7 @@ public final class GarmentsTest {
 
     private static void promise37Exceptions() {
         ClothesLine line = new ClothesLine();
-        for (int garment : NO_GARMENTS) {
+        for (int garment : Due.NO_GARMENTS) {
             DUE.throwsIt("hangObstacle of " + garment, IndexOutOfBoundsException.class,
                     () -> line.hangObstacle(garment, -1, 5, 5));
         }
@@ -232,25 +229,19 @@ public final class GarmentsTest {
 
     private static void wrongGarments() {
         ClothesLine line = new ClothesLine();
-        throwsForNoGarment("stateOf", line::stateOf);
-        throwsForNoGarment("widthOf", line::widthOf);
-        throwsForNoGarment("dryWeight", line::dryWeight);
-        throwsForNoGarment("capacityOf", line::capacityOf);
-        throwsForNoGarment("waterOf", line::waterOf);
-        throwsForNoGarment("weightOf", line::weightOf);
-        throwsForNoGarment("smellOf", line::smellOf);
-        throwsForNoGarment("spotOf", line::spotOf);
-        throwsForNoGarment("woodenOf", line::woodenOf);
-        throwsForNoGarment("steelOf", line::steelOf);
-        throwsForNoGarment("holdOf", line::holdOf);
-        throwsForNoGarment("fallsOf", line::fallsOf);
-        throwsForNoGarment("isDirty", line::isDirty);
-        throwsForNoGarment("fewestPegs", line::fewestPegs);
-    }
-
-    private static void throwsForNoGarment(String call, IntConsumer asked) {
-        for (int garment : NO_GARMENTS) {
-            DUE.throwsIt(call + " " + garment, IndexOutOfBoundsException.class, () -> asked.accept(garment));
-        }
+        DUE.throwsForNoGarment("stateOf", line::stateOf);
+        DUE.throwsForNoGarment("widthOf", line::widthOf);
+        DUE.throwsForNoGarment("dryWeight", line::dryWeight);
+        DUE.throwsForNoGarment("capacityOf", line::capacityOf);
+        DUE.throwsForNoGarment("waterOf", line::waterOf);
+        DUE.throwsForNoGarment("weightOf", line::weightOf);
+        DUE.throwsForNoGarment("smellOf", line::smellOf);
+        DUE.throwsForNoGarment("spotOf", line::spotOf);
+        DUE.throwsForNoGarment("woodenOf", line::woodenOf);
+        DUE.throwsForNoGarment("steelOf", line::steelOf);
+        DUE.throwsForNoGarment("holdOf", line::holdOf);
+        DUE.throwsForNoGarment("fallsOf", line::fallsOf);
+        DUE.throwsForNoGarment("isDirty", line::isDirty);
+        DUE.throwsForNoGarment("fewestPegs", line::fewestPegs);
     }
 }

@@ -1,8 +1,5 @@
-import java.util.function.IntConsumer;
-
 /** Promises 46 to 50: predictions. */
 public final class PredictionsTest {
-    private static final int[] NO_GARMENTS = {-1, 4, 10, Integer.MIN_VALUE, Integer.MAX_VALUE};
     private static final Due DUE = new Due("PredictionsTest");
 
     public static void main(String[] args) {
@@ -168,15 +165,9 @@ public final class PredictionsTest {
 
     private static void wrongGarments() {
         ClothesLine line = new ClothesLine();
-        throwsForNoGarment("waterAfter", garment -> line.waterAfter(garment, 1));
-        throwsForNoGarment("minutesToDry", line::minutesToDry);
-        throwsForNoGarment("minutesToFall", line::minutesToFall);
-        throwsForNoGarment("bestSpot", line::bestSpot);
-    }
-
-    private static void throwsForNoGarment(String call, IntConsumer asked) {
-        for (int garment : NO_GARMENTS) {
-            DUE.throwsIt(call + " " + garment, IndexOutOfBoundsException.class, () -> asked.accept(garment));
-        }
+        DUE.throwsForNoGarment("waterAfter", garment -> line.waterAfter(garment, 1));
+        DUE.throwsForNoGarment("minutesToDry", line::minutesToDry);
+        DUE.throwsForNoGarment("minutesToFall", line::minutesToFall);
+        DUE.throwsForNoGarment("bestSpot", line::bestSpot);
     }
 }
