@@ -71,6 +71,12 @@ public final class ChangesTest {
         line.undo();
         line.addGarment(2, 9, 900, 80);
         DUE.same("a new one is as the old one was", Due.seen(line), first);
+        line.undo();
+        DUE.is("added and fallen in one change", Due.run(line, "garment 2 9 900 80;hang 0 0 1 0;minutes 20;"), 3);
+        DUE.is("the old one fell again", line.fallsOf(0) * 100 + line.smellOf(0), 107);
+        line.undo();
+        line.addGarment(2, 9, 900, 80);
+        DUE.same("a new one has nothing of it", Due.seen(line), first);
         line.hang(0, 0, 1, 0);
         line.passMinutes(20);
         Due.load(line, "line 9 9 0;wind 3;shower 5 4 20;smoke 0 99;garment 2 9 900 80;");

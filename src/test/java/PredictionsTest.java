@@ -71,6 +71,8 @@ public final class PredictionsTest {
     private static void promise48OneFallsAndOneDoesNot() {
         ClothesLine line = Due.lineOf("line 9 9 24;wind 0;garment 1 1 9 0;garment 1 20 99 0;hang 0 0 1 0;hang 1 1 1 0;"
                 + "shower 3 1 10;");
+        Due.run(line, "wind 0 0;");
+        DUE.is("the light one does not fall, after a script", line.minutesToFall(0), -1);
         DUE.is("the one at risk", line.garmentsAtRisk(), 2);
         DUE.is("the light one does not fall", line.minutesToFall(0), -1);
         DUE.is("the heavy one falls", line.minutesToFall(1), 4);
