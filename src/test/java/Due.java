@@ -1,16 +1,58 @@
-import java.util.function.IntConsumer;
+import java.lang.reflect.InvocationTargetException;
+import java.lang.reflect.Method;
+import java.util.Arrays;
+import java.util.Comparator;
+import java.util.function.Consumer;
+import java.util.function.ObjIntConsumer;
+import java.util.function.Supplier;
 
 /** Compares answers with those that are due, prints each that is not, and ends with exit code 1 if there was one. */
 final class Due {
-    /** Indices that no garment of a new line has. */
-    static final int[] NO_GARMENTS = {-1, 4, 10, Integer.MIN_VALUE, Integer.MAX_VALUE};
+    static final Class<IndexOutOfBoundsException> NO_INDEX = IndexOutOfBoundsException.class;
+    static final Class<IllegalArgumentException> NO_ARGUMENT = IllegalArgumentException.class;
+    static final Class<IllegalStateException> NO_STATE = IllegalStateException.class;
 
     private final String test;
+    private String sentence = "";
     private int asked;
     private int wrong;
 
     Due(String test) {
         this.test = test;
+    }
+
+    /** Runs the tests of a class, a method each, and ends. */
+    void everyTestOf(Class<?> tests) {
+        Method[] methods = tests.getDeclaredMethods();
+        Arrays.sort(methods, Comparator.comparing(Method::getName));
+        for (Method method : methods) {
+            if (promiseOf(method) > 0) {
+                sentence = " " + method.getName();
+                runTest(method);
+            }
+        }
+        sentence = "";
+        end();
+    }
+
+    /** A test's name is p, the two digits of its promise, and what is due; the answer is 0 if it is no test. */
+    static int promiseOf(Method method) {
+        String name = method.getName();
+        return name.matches("p[0-9]{2}[A-Z]\\w*") ? Integer.parseInt(name.substring(1, 3)) : 0;
+    }
+
+    private void runTest(Method method) {
+        int before = asked;
+        try {
+            method.invoke(null);
+        } catch (InvocationTargetException e) {
+            miss("threw " + e.getCause());
+        } catch (IllegalAccessException e) {
+            miss("is not to be called");
+        }
+        if (asked == before) {
+            miss("asked nothing");
+        }
     }
 
     void is(String call, long got, long want) {
@@ -31,6 +73,17 @@ final class Due {
         }
     }
 
+    void same(String what, String got, String want) {
+        asked++;
+        if (!got.equals(want)) {
+            String[] gotLines = got.split("\n");
+            String[] wantLines = want.split("\n");
+            int line = Math.max(Arrays.mismatch(gotLines, wantLines), 0);
+            miss(what + "\n  got  " + (line < gotLines.length ? gotLines[line] : "nothing more")
+                    + "\n  want " + (line < wantLines.length ? wantLines[line] : "nothing more"));
+        }
+    }
+
     /** The very class is due: a subclass, as the machine throws them, is not. */
     void throwsIt(String call, Class<? extends RuntimeException> want, Runnable made) {
         asked++;
@@ -44,16 +97,43 @@ final class Due {
         }
     }
 
-    void throwsForNoGarment(String call, IntConsumer asked) {
-        for (int garment : NO_GARMENTS) {
-            throwsIt(call + " " + garment, IndexOutOfBoundsException.class, () -> asked.accept(garment));
+    /** The call throws, and leaves all as it was: buffers, changes to undo, saved states and the error too. */
+    void refused(String call, Class<? extends RuntimeException> want, Supplier<ClothesLine> scene,
+            Consumer<ClothesLine> made) {
+        throwsIt(call, want, () -> made.accept(scene.get()));
+        changesNothing(call, scene, line -> tryOut(line, made));
+    }
+
+    private static void tryOut(ClothesLine line, Consumer<ClothesLine> made) {
+        try {
+            made.accept(line);
+        } catch (RuntimeException e) {
+            // Whether it is the one that is due, throwsIt() has seen before.
+        }
+    }
+
+    void changesNothing(String call, Supplier<ClothesLine> scene, Consumer<ClothesLine> made) {
+        same(call + " changes nothing", Whole.of(scene, made), Whole.of(scene, Whole.NO_CALL));
+    }
+
+    /** Indices just and far outside the garments of lines with none, with four and with ten of them. */
+    void refusesOtherGarments(String call, ObjIntConsumer<ClothesLine> made) {
+        refusesOtherGarments(call, made, Scenes::empty, -1, 0, 1, Integer.MIN_VALUE, Integer.MAX_VALUE);
+        refusesOtherGarments(call, made, Scenes::busy, -1, 4, 5, 9, 10, Integer.MIN_VALUE, Integer.MAX_VALUE);
+        refusesOtherGarments(call, made, Scenes::full, -1, 10, 11, Integer.MIN_VALUE, Integer.MAX_VALUE);
+    }
+
+    private void refusesOtherGarments(String call, ObjIntConsumer<ClothesLine> made, Supplier<ClothesLine> scene,
+            int... garments) {
+        for (int garment : garments) {
+            refused(call + " of " + garment, NO_INDEX, scene, line -> made.accept(line, garment));
         }
     }
 
     void miss(String what) {
         wrong++;
         if (wrong <= 50) {
-            System.out.println(test + ": " + what);
+            System.out.println(test + sentence + ": " + what);
         }
     }
 
@@ -98,40 +178,5 @@ final class Due {
             throw new IllegalArgumentException(line.errorCode() + " at " + line.errorPosition() + " in " + setup);
         }
         return line;
-    }
-
-    /** Everything that a caller can see without changing the line, in one text. */
-    static String seen(ClothesLine line) {
-        StringBuilder all = new StringBuilder();
-        int[] whole = {line.minute(), line.shadowWidth(), line.undoCount(), line.minutesToRain(), line.woodenLeft(),
-            line.steelLeft(), line.freeSpots(), line.longestGap(), line.garmentCount(), line.dryGarments(),
-            line.waterInAll(), line.waterCame(), line.driedBySun(), line.driedByWind(), line.consistencyError(),
-            line.garmentsAtRisk()};
-        for (int number : whole) {
-            all.append(number).append(' ');
-        }
-        all.append(line.meanWater()).append(' ').append(line.dryShare());
-        for (int m = 0; m < 1500; m += 10) {
-            all.append(' ').append(line.windIn(m)).append(',').append(line.rainIn(m)).append(',')
-                    .append(line.sunnySpots(m)).append(',').append(line.smokySpots(m));
-        }
-        for (int g = 0; g < line.garmentCount(); g++) {
-            int[] one = {line.stateOf(g), line.widthOf(g), line.dryWeight(g), line.capacityOf(g), line.waterOf(g),
-                line.weightOf(g), line.smellOf(g), line.spotOf(g), line.woodenOf(g), line.steelOf(g), line.holdOf(g),
-                line.fallsOf(g), line.isDirty(g) ? 1 : 0, line.fewestPegs(g), line.minutesToDry(g),
-                line.minutesToFall(g), line.bestSpot(g)};
-            all.append("\n ").append(g).append(':');
-            for (int number : one) {
-                all.append(' ').append(number);
-            }
-        }
-        return all.toString();
-    }
-
-    void same(String what, String got, String want) {
-        asked++;
-        if (!got.equals(want)) {
-            miss(what + "\n got  " + got + "\n want " + want);
-        }
     }
 }

@@ -1,31 +1,44 @@
-/** Promises 21 to 38: garments. */
+/** Promises 21 to 36: what garments are. Whether one can be hung is in HangingTest, what minutes do to it in MinutesTest. */
 public final class GarmentsTest {
     private static final Due DUE = new Due("GarmentsTest");
 
     public static void main(String[] args) {
-        promise21GarmentCount();
-        promises22To34();
-        promise28Smell();
-        promise33Falls();
-        promise35GarmentsIn();
-        promise36DryGarments();
-        promise37Obstacles();
-        promise37Exceptions();
-        promise38FewestPegs();
-        wrongGarments();
-        DUE.end();
+        DUE.everyTestOf(GarmentsTest.class);
     }
 
-    private static void promise21GarmentCount() {
-        ClothesLine line = Due.lineOf("line 0 0 0;wind 0;");
-        for (int i = 0; i < 10; i++) {
-            DUE.is("count " + i, line.garmentCount(), i);
+    /** A garment in the basket, of this dry weight and water. */
+    private static ClothesLine garment(int weight, int water) {
+        return Due.lineOf("line 9 9 0;wind 0;garment 1 " + weight + " 999 " + water + ";");
+    }
+
+    /** A garment of weight 1 on the line, with these pegs. */
+    private static ClothesLine pegged(int wooden, int steel) {
+        return Due.lineOf("line 9 9 0;wind 0;garment 1 1 9 0;hang 0 7 " + wooden + " " + steel + ";");
+    }
+
+    // ---- count
+
+    /** "There are at most 10 garments" */
+    static void p21From0To10() {
+        ClothesLine line = Scenes.empty();
+        for (int count = 0; count < 10; count++) {
+            DUE.is("count", line.garmentCount(), count);
             line.addGarment(1, 1, 1, 1);
         }
-        DUE.is("count 10", line.garmentCount(), 10);
+        DUE.is("ten", line.garmentCount(), 10);
+        DUE.throwsIt("the 11th", Due.NO_STATE, () -> line.addGarment(1, 1, 1, 1));
+        DUE.is("still ten", line.garmentCount(), 10);
     }
 
-    private static void promises22To34() {
+    static void p21GarmentsInEachStateCount() {
+        DUE.is("new", new ClothesLine().garmentCount(), 4);
+        DUE.is("busy", Scenes.busy().garmentCount(), 4);
+    }
+
+    // ---- of each garment
+
+    /** "with the indices 0, 1, 2 and so on, in the order in which they were added" */
+    static void p22EachGarmentOfTheNewLine() {
         ClothesLine line = new ClothesLine();
         int[][] due = {
             {1, 3, 12, 200, 155, 27, 0, 2, 2, 0, 40, 0},
@@ -47,201 +60,339 @@ public final class GarmentsTest {
             DUE.is("fallsOf " + g, line.fallsOf(g), due[g][11]);
             DUE.is("isDirty " + g, line.isDirty(g), false);
         }
-        line.takeDown(2);
-        DUE.is("taken: spot", line.spotOf(2), -1);
-        DUE.is("taken: wooden", line.woodenOf(2), 0);
-        DUE.is("taken: steel", line.steelOf(2), 0);
-        DUE.is("taken: hold", line.holdOf(2), 0);
-        DUE.is("taken: water", line.waterOf(2), 350);
-        line.addGarment(1, 99, 999, 999);
-        DUE.is("the heaviest", line.weightOf(4), 198);
-        line.addGarment(1, 99, 999, 9);
-        DUE.is("rounded down", line.weightOf(5), 99);
     }
 
-    /** Smoke in the minutes 30 to 70, and the wind is 0 from 60 to 119: the spots 0 to 3 smell until 59. */
-    private static void promise28Smell() {
-        ClothesLine line = new ClothesLine();
-        line.shift(0, 0);
-        line.takeDown(1);
-        line.hang(3, 4, 1, 0);
-        line.hang(1, 3, 1, 0);
-        line.passMinutes(5);
-        DUE.is("no smoke yet", line.smellOf(0), 0);
-        line.passMinutes(10);
-        DUE.is("smoke", line.smellOf(0), 10);
-        DUE.is("smoke at the spot 3", line.smellOf(1), 10);
-        DUE.is("no smoke at the spot 4", line.smellOf(3), 0);
-        line.shift(1, 7);
-        line.passMinutes(4);
-        DUE.is("the wind takes the smell", line.smellOf(1), 6);
-        line.passMinutes(16);
-        DUE.is("not below 0", line.smellOf(1), 0);
-        DUE.is("smoke to the end of the wind", line.smellOf(0), 30);
-        line.passMinutes(60);
-        DUE.is("no wind, no change", line.smellOf(0), 30);
-        line.passMinutes(10);
-        DUE.is("wind again", line.smellOf(0), 20);
-        ClothesLine long1 = Due.lineOf("line 9 9 0;wind 1;garment 6 1 1 0;hang 0 3 1 0;smoke 0 200;minutes 98;");
-        DUE.is("98", long1.smellOf(0), 98);
-        long1.passMinutes(1);
-        DUE.is("99", long1.smellOf(0), 99);
-        long1.passMinutes(2);
-        DUE.is("at most 99", long1.smellOf(0), 99);
-        long1.passMinutes(100);
-        DUE.is("99 in the last minute of the smoke", long1.smellOf(0), 99);
-        long1.passMinutes(1);
-        DUE.is("98 again", long1.smellOf(0), 98);
-        long1.takeDown(0);
-        long1.passMinutes(9);
-        DUE.is("the basket keeps the smell", long1.smellOf(0), 98);
-        long1.wash(0);
-        DUE.is("washed", long1.smellOf(0), 0);
-    }
-
-    private static void promise33Falls() {
-        ClothesLine line = Due.lineOf("line 9 9 0;wind 0;garment 2 1 300 0;hang 0 4 1 0;shower 0 9 10;shower 30 9 10;");
-        line.passMinutes(9);
-        DUE.is("water 180 weighs 19", line.stateOf(0) * 1000 + line.waterOf(0), 1180);
-        DUE.is("not fallen", line.fallsOf(0), 0);
-        line.addShower(9, 2, 5);
-        DUE.is("weight 20 is held", line.passMinutes(1) * 1000 + line.waterOf(0), 190);
-        DUE.is("weight 21 is not", line.passMinutes(1), 1);
-        DUE.is("fallen: state", line.stateOf(0), ClothesLine.GROUND);
-        DUE.is("fallen: falls", line.fallsOf(0), 1);
-        DUE.is("fallen: dirty", line.isDirty(0), true);
-        DUE.is("fallen: spot", line.spotOf(0), -1);
-        DUE.is("fallen: pegs", line.woodenOf(0) + line.steelOf(0) + line.holdOf(0), 0);
-        line.passMinutes(30);
-        DUE.is("the ground is dry", line.waterOf(0), 200);
+    /** "Returns BASKET, LINE or GROUND." */
+    static void p22BasketLineOrGround() {
+        ClothesLine line = Scenes.fallen();
+        DUE.is("on the ground", line.stateOf(0), ClothesLine.GROUND);
+        DUE.is("on the line", line.stateOf(2), ClothesLine.LINE);
+        DUE.is("in the basket", line.stateOf(3), ClothesLine.BASKET);
         line.pickUp(0);
-        DUE.is("picked: dirty", line.isDirty(0), true);
-        line.hang(0, 4, 0, 1);
-        DUE.is("hung: dirty", line.isDirty(0), true);
-        line.takeDown(0);
-        line.wash(0);
-        DUE.is("washed: clean", line.isDirty(0), false);
-        DUE.is("washed: falls stay", line.fallsOf(0), 1);
+        DUE.is("picked up", line.stateOf(0), ClothesLine.BASKET);
+        line.takeDown(2);
+        DUE.is("taken down", line.stateOf(2), ClothesLine.BASKET);
+        line.hang(0, 9, 1, 3);
+        DUE.is("hung again", line.stateOf(0), ClothesLine.LINE);
     }
 
-    private static void promise35GarmentsIn() {
-        ClothesLine line = new ClothesLine();
-        DUE.is("basket", line.garmentsIn(ClothesLine.BASKET), 8);
-        DUE.is("line", line.garmentsIn(ClothesLine.LINE), 7);
-        DUE.is("ground", line.garmentsIn(ClothesLine.GROUND), 0);
-        line.addGarment(1, 5, 200, 0);
-        line.hang(4, 20, 1, 0);
-        line.addShower(25, 10, 20);
-        line.passMinutes(10);
-        DUE.is("ground after a fall", line.garmentsIn(ClothesLine.GROUND) & 16, 16);
-        for (int state : new int[] {-1, 3, Integer.MIN_VALUE, Integer.MAX_VALUE}) {
-            DUE.throwsIt("garmentsIn " + state, IllegalArgumentException.class, () -> line.garmentsIn(state));
+    static void p22NoSuchGarment() {
+        DUE.is("the tenth", Scenes.full().stateOf(9), ClothesLine.BASKET);
+        DUE.refusesOtherGarments("stateOf", ClothesLine::stateOf);
+    }
+
+    /** "a width (1 to 6 spots)" */
+    static void p23From1To6() {
+        for (int width = 1; width <= 6; width++) {
+            DUE.is("width", Due.lineOf("line 0 0 0;wind 0;garment " + width + " 9 9 9;").widthOf(0), width);
         }
     }
 
-    private static void promise36DryGarments() {
+    static void p23NoSuchGarment() {
+        DUE.is("the tenth", Scenes.full().widthOf(9), 1);
+        DUE.refusesOtherGarments("widthOf", ClothesLine::widthOf);
+    }
+
+    /** "a dry weight (1 to 99)" */
+    static void p24From1To99() {
+        DUE.is("1", garment(1, 999).dryWeight(0), 1);
+        DUE.is("99", garment(99, 999).dryWeight(0), 99);
+    }
+
+    static void p24NoSuchGarment() {
+        DUE.is("the tenth", Scenes.full().dryWeight(9), 20);
+        DUE.refusesOtherGarments("dryWeight", ClothesLine::dryWeight);
+    }
+
+    /** "a capacity (1 to 999)" */
+    static void p25From1To999() {
+        DUE.is("1", Due.lineOf("line 0 0 0;wind 0;garment 2 3 1 0;").capacityOf(0), 1);
+        DUE.is("999", Due.lineOf("line 0 0 0;wind 0;garment 2 3 999 0;").capacityOf(0), 999);
+    }
+
+    static void p25NoSuchGarment() {
+        DUE.is("the tenth", Scenes.full().capacityOf(9), 99);
+        DUE.refusesOtherGarments("capacityOf", ClothesLine::capacityOf);
+    }
+
+    /** "water (0 to the capacity)" */
+    static void p26From0ToTheCapacity() {
+        DUE.is("0", garment(1, 0).waterOf(0), 0);
+        DUE.is("the capacity", garment(1, 999).waterOf(0), 999);
+    }
+
+    static void p26NoSuchGarment() {
+        DUE.is("the tenth", Scenes.full().waterOf(9), 9);
+        DUE.refusesOtherGarments("waterOf", ClothesLine::waterOf);
+    }
+
+    /** "the dry weight plus a tenth of its water, rounded down" */
+    static void p27ATenthOfTheWaterRoundedDown() {
+        int[][] due = {{0, 5}, {1, 5}, {9, 5}, {10, 6}, {19, 6}, {20, 7}, {99, 14}, {100, 15}, {999, 104}};
+        for (int[] waterAndWeight : due) {
+            DUE.is("weight with water " + waterAndWeight[0], garment(5, waterAndWeight[0]).weightOf(0), waterAndWeight[1]);
+        }
+    }
+
+    static void p27TheHeaviestAndTheLightest() {
+        DUE.is("the heaviest", garment(99, 999).weightOf(0), 198);
+        DUE.is("the lightest", garment(1, 9).weightOf(0), 1);
+    }
+
+    static void p27TheWeightChangesWithTheWater() {
         ClothesLine line = new ClothesLine();
-        DUE.is("dry in the basket", line.dryGarments(), 8);
-        line.passMinutes(5);
-        DUE.is("dry on the line", line.dryGarments(), 10);
         line.wash(3);
-        DUE.is("washed", line.dryGarments(), 2);
-        DUE.is("none", Due.lineOf("line 0 0 0;wind 0;").dryGarments(), 0);
+        DUE.is("washed", line.weightOf(3), 18);
+        line.passMinutes(1);
+        DUE.is("dried", line.weightOf(1), 4);
     }
 
-    private static void promise37Obstacles() {
-        ClothesLine line = new ClothesLine();
-        DUE.is("on the line, before all else", line.hangObstacle(0, 23, 0, 0), 1);
-        DUE.is("beyond, before pegs", line.hangObstacle(3, 23, 0, 0), 2);
-        DUE.is("just not beyond", line.hangObstacle(3, 22, 1, 0), 0);
-        DUE.is("occupied at its end", line.hangObstacle(3, 7, 0, 0), 3);
-        DUE.is("occupied at its begin", line.hangObstacle(3, 2, 4, 4), 3);
-        DUE.is("occupied at its begin by a wide one", line.hangObstacle(3, 16, 1, 0), 3);
-        DUE.is("free beside", line.hangObstacle(3, 17, 1, 0), 0);
-        DUE.is("free between", line.hangObstacle(3, 6, 1, 0), 0);
-        DUE.is("no peg", line.hangObstacle(3, 5, 0, 0), 4);
-        DUE.is("five pegs", line.hangObstacle(3, 5, 4, 1), 4);
-        DUE.is("eight pegs, before too few", line.hangObstacle(3, 5, 4, 4), 4);
-        DUE.is("four pegs", line.hangObstacle(3, 5, 3, 1), 0);
-        DUE.is("all wooden ones", line.hangObstacle(3, 5, 4, 0), 0);
-        DUE.is("too few steel pegs", line.hangObstacle(3, 5, 0, 2), 5);
-        line.addGarment(1, 21, 999, 0);
-        line.addGarment(1, 20, 999, 9);
-        line.addGarment(1, 20, 999, 10);
-        DUE.is("too heavy", line.hangObstacle(4, 5, 1, 0), 6);
-        DUE.is("too few pegs, before too heavy", line.hangObstacle(4, 5, 0, 2), 5);
-        DUE.is("as heavy as the hold", line.hangObstacle(5, 5, 1, 0), 0);
-        DUE.is("too heavy with its water", line.hangObstacle(6, 5, 1, 0), 6);
-        DUE.is("steel holds it", line.hangObstacle(6, 5, 0, 1), 0);
-        line.hang(5, 5, 3, 0);
-        DUE.is("too few wooden pegs", line.hangObstacle(3, 19, 2, 0), 5);
-        ClothesLine fallen = Due.lineOf("line 9 9 0;wind 0;garment 1 9 990 0;hang 0 0 1 0;shower 0 6 20;minutes 6;");
-        DUE.is("on the ground", fallen.hangObstacle(0, 0, 1, 0), 1);
-        DUE.is("steel holds 45", Due.lineOf("line 0 1 0;wind 0;garment 1 45 9 9;").hangObstacle(0, 0, 0, 1), 0);
-        DUE.is("steel does not hold 46", Due.lineOf("line 0 1 0;wind 0;garment 1 46 9 9;").hangObstacle(0, 0, 0, 1), 6);
-        DUE.is("obstacles are no changes", line.undoCount(), 4);
+    static void p27NoSuchGarment() {
+        DUE.is("the tenth", Scenes.full().weightOf(9), 20);
+        DUE.refusesOtherGarments("weightOf", ClothesLine::weightOf);
     }
 
-    private static void promise37Exceptions() {
-        ClothesLine line = new ClothesLine();
-        for (int garment : Due.NO_GARMENTS) {
-            DUE.throwsIt("hangObstacle of " + garment, IndexOutOfBoundsException.class,
-                    () -> line.hangObstacle(garment, -1, 5, 5));
-        }
-        int[][] wrong = {{-1, 1, 0}, {24, 1, 0}, {0, -1, 0}, {0, 5, 0}, {0, 1, -1}, {0, 1, 5},
-            {Integer.MAX_VALUE, 1, 0}, {Integer.MIN_VALUE, 1, 0}, {0, Integer.MAX_VALUE, Integer.MAX_VALUE}};
-        for (int[] w : wrong) {
-            for (int garment = 0; garment < 4; garment++) {
-                int asked = garment;
-                DUE.throwsIt("hangObstacle " + w[0] + " " + w[1] + " " + w[2], IllegalArgumentException.class,
-                        () -> line.hangObstacle(asked, w[0], w[1], w[2]));
+    /** "a smell (0 at first)" */
+    static void p28At0AtFirst() {
+        DUE.is("smell", garment(5, 5).smellOf(0), 0);
+    }
+
+    /** "Returns 0 to 99." */
+    static void p28From0To99() {
+        ClothesLine line = Due.lineOf("line 9 9 0;wind 1;garment 6 1 1 0;hang 0 3 1 0;smoke 0 200;minutes 98;");
+        DUE.is("98", line.smellOf(0), 98);
+        line.passMinutes(1);
+        DUE.is("99", line.smellOf(0), 99);
+        line.passMinutes(1);
+        DUE.is("at most 99", line.smellOf(0), 99);
+        line.passMinutes(101);
+        DUE.is("99 to the last minute of the smoke", line.smellOf(0), 99);
+        line.passMinutes(1);
+        DUE.is("then 98", line.smellOf(0), 98);
+        line.passMinutes(97);
+        DUE.is("1", line.smellOf(0), 1);
+        line.passMinutes(1);
+        DUE.is("0", line.smellOf(0), 0);
+        line.passMinutes(1);
+        DUE.is("not below 0", line.smellOf(0), 0);
+    }
+
+    static void p28NoSuchGarment() {
+        DUE.is("the tenth", Scenes.full().smellOf(9), 0);
+        DUE.refusesOtherGarments("smellOf", ClothesLine::smellOf);
+    }
+
+    /** "its spot is the first of these"; "Returns 0 to 23" */
+    static void p29From0To23() {
+        ClothesLine line = pegged(1, 0);
+        DUE.is("7", line.spotOf(0), 7);
+        line.shift(0, 0);
+        DUE.is("0", line.spotOf(0), 0);
+        line.shift(0, 23);
+        DUE.is("23", line.spotOf(0), 23);
+    }
+
+    /** "NONE if it is not on the line" */
+    static void p29NoneIfItIsNotOnTheLine() {
+        ClothesLine line = Scenes.fallen();
+        DUE.is("on the ground", line.spotOf(0), -1);
+        DUE.is("in the basket", line.spotOf(3), -1);
+        line.pickUp(0);
+        DUE.is("picked up", line.spotOf(0), -1);
+        line.takeDown(2);
+        DUE.is("taken down", line.spotOf(2), -1);
+    }
+
+    static void p29NoSuchGarment() {
+        DUE.is("the tenth", Scenes.hung(2).spotOf(9), 18);
+        DUE.refusesOtherGarments("spotOf", ClothesLine::spotOf);
+    }
+
+    /** "Returns 0 to 4" */
+    static void p30From0To4() {
+        DUE.is("0", pegged(0, 1).woodenOf(0), 0);
+        DUE.is("1", pegged(1, 0).woodenOf(0), 1);
+        DUE.is("4", pegged(4, 0).woodenOf(0), 4);
+    }
+
+    /** "0 if it is not on the line" */
+    static void p30NoneIfItIsNotOnTheLine() {
+        ClothesLine line = Scenes.fallen();
+        DUE.is("on the ground", line.woodenOf(0), 0);
+        DUE.is("in the basket", line.woodenOf(3), 0);
+        line.takeDown(2);
+        DUE.is("taken down", line.woodenOf(2), 0);
+    }
+
+    static void p30NoSuchGarment() {
+        DUE.is("the tenth", Scenes.hung(2).woodenOf(9), 1);
+        DUE.refusesOtherGarments("woodenOf", ClothesLine::woodenOf);
+    }
+
+    /** "Returns 0 to 4" */
+    static void p31From0To4() {
+        DUE.is("0", pegged(1, 0).steelOf(0), 0);
+        DUE.is("1", pegged(0, 1).steelOf(0), 1);
+        DUE.is("4", pegged(0, 4).steelOf(0), 4);
+    }
+
+    /** "0 if it is not on the line" */
+    static void p31NoneIfItIsNotOnTheLine() {
+        ClothesLine line = Due.lineOf("line 9 9 0;wind 0;garment 1 45 99 9;garment 1 1 9 0;hang 0 0 0 1;hang 1 1 0 2;"
+                + "shower 0 1 1;minutes 1;");
+        DUE.is("on the ground", line.stateOf(0) * 10 + line.steelOf(0), 20);
+        line.takeDown(1);
+        DUE.is("taken down", line.steelOf(1), 0);
+        DUE.is("in the basket", Scenes.fallen().steelOf(3), 0);
+    }
+
+    static void p31NoSuchGarment() {
+        DUE.is("the tenth", Scenes.full().steelOf(9), 0);
+        DUE.is("the second", Scenes.full().steelOf(1), 1);
+        DUE.refusesOtherGarments("steelOf", ClothesLine::steelOf);
+    }
+
+    /** "wooden pegs, which hold 20 each, and steel pegs, which hold 45 each"; "its hold is the sum" */
+    static void p32TheSumOfWhatThePegsHold() {
+        for (int wooden = 0; wooden <= 4; wooden++) {
+            for (int steel = wooden == 0 ? 1 : 0; wooden + steel <= 4; steel++) {
+                DUE.is("hold of " + wooden + " and " + steel, pegged(wooden, steel).holdOf(0), 20 * wooden + 45 * steel);
             }
         }
     }
 
-    private static void promise38FewestPegs() {
-        DUE.is("one steel peg", fewest(5, 5, 45), 1);
-        DUE.is("two steel pegs", fewest(5, 5, 46), 2);
-        DUE.is("two steel pegs hold 90", fewest(5, 5, 90), 2);
-        DUE.is("three steel pegs", fewest(5, 5, 91), 3);
-        DUE.is("one wooden peg", fewest(5, 0, 20), 1);
-        DUE.is("two wooden pegs", fewest(5, 0, 21), 2);
-        DUE.is("four wooden pegs", fewest(5, 0, 80), 4);
-        DUE.is("five would do", fewest(5, 0, 81), -1);
-        DUE.is("one and one", fewest(1, 1, 65), 2);
-        DUE.is("one and one are too few", fewest(1, 1, 66), -1);
-        DUE.is("no pegs", fewest(0, 0, 1), -1);
-        DUE.is("one steel peg and three", fewest(3, 1, 99), 4);
-        DUE.is("one steel peg and two", fewest(2, 1, 86), -1);
-        ClothesLine line = new ClothesLine();
-        DUE.is("on the line, with the pegs of the bag", line.fewestPegs(0), 1);
-        DUE.is("75 on the line", line.fewestPegs(2), 3);
-        DUE.is("with water", Due.lineOf("line 0 4 0;wind 0;garment 1 99 999 810;").fewestPegs(0), 4);
-        DUE.is("with more water", Due.lineOf("line 0 4 0;wind 0;garment 1 99 999 820;").fewestPegs(0), -1);
-        ClothesLine fallen = Due.lineOf("line 9 9 0;wind 0;garment 1 9 990 0;hang 0 0 1 0;shower 0 6 20;minutes 6;");
-        DUE.is("on the ground", fallen.fewestPegs(0), 1);
+    /** "0 if it is not on the line" */
+    static void p32NoneIfItIsNotOnTheLine() {
+        ClothesLine line = Scenes.fallen();
+        DUE.is("on the ground", line.holdOf(0), 0);
+        DUE.is("in the basket", line.holdOf(3), 0);
+        line.takeDown(2);
+        DUE.is("taken down", line.holdOf(2), 0);
     }
 
-    private static int fewest(int wooden, int steel, int weight) {
-        ClothesLine line = Due.lineOf("line " + wooden + " " + steel + " 0;wind 0;garment 1 " + weight + " 9 9;");
-        return line.fewestPegs(0);
+    static void p32NoSuchGarment() {
+        DUE.is("the tenth", Scenes.hung(2).holdOf(9), 20);
+        DUE.refusesOtherGarments("holdOf", ClothesLine::holdOf);
     }
 
-    private static void wrongGarments() {
+    /** "Returns how often it has fallen." */
+    static void p33HowOftenItHasFallen() {
+        ClothesLine line = Due.lineOf("line 9 9 0;wind 0;garment 1 20 99 9;garment 1 1 1 1;hang 0 0 1 0;shower 0 90 1;");
+        DUE.is("never", line.fallsOf(0), 0);
+        line.passMinutes(1);
+        DUE.is("once", line.fallsOf(0), 1);
+        line.passMinutes(1);
+        DUE.is("once, on the ground", line.fallsOf(0), 1);
+        line.pickUp(0);
+        line.wash(0);
+        DUE.is("once, washed", line.fallsOf(0), 1);
+        line.hang(0, 0, 0, 1);
+        line.takeDown(0);
+        DUE.is("taking down is no fall", line.fallsOf(0), 1);
+        DUE.is("the other", line.fallsOf(1), 0);
+    }
+
+    static void p33FallenTwice() {
+        ClothesLine line = Due.lineOf("line 9 9 0;wind 0;garment 1 20 40 9;hang 0 0 1 0;shower 0 1 1;shower 9 90 1;minutes 1;");
+        line.pickUp(0);
+        line.hang(0, 0, 0, 1);
+        line.passMinutes(5);
+        DUE.is("dried to 5", line.waterOf(0), 5);
+        line.takeDown(0);
+        line.hang(0, 0, 1, 0);
+        line.passMinutes(10);
+        DUE.is("once, and water 9", line.fallsOf(0) * 10 + line.waterOf(0), 19);
+        DUE.is("again", line.passMinutes(1), 1);
+        DUE.is("twice", line.fallsOf(0), 2);
+    }
+
+    static void p33NoSuchGarment() {
+        DUE.is("the tenth", Scenes.full().fallsOf(9), 0);
+        DUE.is("the first", Scenes.full().fallsOf(0), 1);
+        DUE.refusesOtherGarments("fallsOf", ClothesLine::fallsOf);
+    }
+
+    /** "may be dirty (it is clean at first)" */
+    static void p34CleanAtFirst() {
+        DUE.is("dirty", garment(5, 5).isDirty(0), false);
+    }
+
+    static void p34DirtyFromTheFallToTheWashing() {
+        ClothesLine line = Scenes.fallen();
+        DUE.is("fallen", line.isDirty(0), true);
+        DUE.is("on the line", line.isDirty(2), false);
+        line.pickUp(0);
+        DUE.is("picked up", line.isDirty(0), true);
+        line.hang(0, 9, 1, 3);
+        DUE.is("hung", line.isDirty(0), true);
+        line.takeDown(0);
+        DUE.is("taken down", line.isDirty(0), true);
+        line.wash(0);
+        DUE.is("washed", line.isDirty(0), false);
+    }
+
+    static void p34NoSuchGarment() {
+        DUE.is("the tenth", Scenes.full().isDirty(9), false);
+        DUE.refusesOtherGarments("isDirty", ClothesLine::isDirty);
+    }
+
+    // ---- sets of garments
+
+    /** "Returns the garments in a state." */
+    static void p35TheGarmentsInAState() {
+        ClothesLine line = Scenes.fallen();
+        DUE.is("basket", line.garmentsIn(ClothesLine.BASKET), 8);
+        DUE.is("line", line.garmentsIn(ClothesLine.LINE), 4);
+        DUE.is("ground", line.garmentsIn(ClothesLine.GROUND), 3);
+    }
+
+    static void p35NoneAndTen() {
+        for (int state = 0; state <= 2; state++) {
+            DUE.is("no garment " + state, Scenes.empty().garmentsIn(state), 0);
+        }
+        ClothesLine line = Scenes.hung(2);
+        DUE.is("ten on the line", line.garmentsIn(ClothesLine.LINE), 1023);
+        DUE.is("none in the basket", line.garmentsIn(ClothesLine.BASKET), 0);
+        DUE.is("none on the ground", line.garmentsIn(ClothesLine.GROUND), 0);
+        DUE.is("eight in the basket", Scenes.full().garmentsIn(ClothesLine.BASKET), 1020);
+    }
+
+    /** "Throws IllegalArgumentException if state is out of range" */
+    static void p35OtherStates() {
+        for (int state : new int[] {-1, 3, Integer.MIN_VALUE, Integer.MAX_VALUE}) {
+            DUE.refused("garmentsIn " + state, Due.NO_ARGUMENT, Scenes::busy, line -> line.garmentsIn(state));
+        }
+    }
+
+    /** "the garments without water, whatever their states are" */
+    static void p36WhateverTheirStatesAre() {
+        ClothesLine line = Due.lineOf("line 9 9 0;wind 5;garment 1 21 9 0;garment 1 1 9 0;garment 1 1 9 0;garment 1 1 9 1;"
+                + "garment 1 1 9 1;hang 0 0 0 1;hang 1 1 1 0;hang 3 3 1 0;minutes 1;");
+        DUE.is("on the line and in the basket", line.dryGarments(), 15);
+    }
+
+    /** A garment on the ground is never dry: without its water its pegs would have held it. */
+    static void p36OnTheGroundTheyAreWet() {
+        DUE.is("two on the ground, and one dry in the basket", Scenes.fallen().dryGarments(), 8);
+    }
+
+    static void p36NoneAndAll() {
+        DUE.is("no garment", Scenes.empty().dryGarments(), 0);
+        DUE.is("all ten", Scenes.hung(2).dryGarments(), 1023);
+        DUE.is("none of ten", Scenes.full().dryGarments(), 0);
+    }
+
+    static void p36WaterOf1IsWater() {
+        DUE.is("0", garment(1, 0).dryGarments(), 1);
+        DUE.is("1", garment(1, 1).dryGarments(), 0);
+    }
+
+    static void p36WashedAndDried() {
         ClothesLine line = new ClothesLine();
-        DUE.throwsForNoGarment("stateOf", line::stateOf);
-        DUE.throwsForNoGarment("widthOf", line::widthOf);
-        DUE.throwsForNoGarment("dryWeight", line::dryWeight);
-        DUE.throwsForNoGarment("capacityOf", line::capacityOf);
-        DUE.throwsForNoGarment("waterOf", line::waterOf);
-        DUE.throwsForNoGarment("weightOf", line::weightOf);
-        DUE.throwsForNoGarment("smellOf", line::smellOf);
-        DUE.throwsForNoGarment("spotOf", line::spotOf);
-        DUE.throwsForNoGarment("woodenOf", line::woodenOf);
-        DUE.throwsForNoGarment("steelOf", line::steelOf);
-        DUE.throwsForNoGarment("holdOf", line::holdOf);
-        DUE.throwsForNoGarment("fallsOf", line::fallsOf);
-        DUE.throwsForNoGarment("isDirty", line::isDirty);
-        DUE.throwsForNoGarment("fewestPegs", line::fewestPegs);
+        DUE.is("in the basket", line.dryGarments(), 8);
+        line.passMinutes(5);
+        DUE.is("dried", line.dryGarments(), 10);
+        line.wash(3);
+        DUE.is("washed", line.dryGarments(), 2);
     }
 }

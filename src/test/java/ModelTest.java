@@ -12,6 +12,8 @@ import java.util.Random;
  * Arguments of main: the first seed and the number of runs.
  */
 public final class ModelTest {
+    private static final int MOST_CALLS = 512;
+    private static final int MOST_CALLS_OF_A_TEXT = 40;
     private static final Due DUE = new Due("ModelTest");
     private static final String[] WORDS = {"garment", "hang", "take", "pick", "wash", "shift", "shower", "smoke", "wind",
         "minutes"};
@@ -47,9 +49,9 @@ public final class ModelTest {
         if (random.nextInt(3) > 0) {
             text(true);
         }
-        while (calls < 512 && same) {
+        while (calls < MOST_CALLS && same) {
             int kind = random.nextInt(100);
-            if (kind < 4) {
+            if (kind < 4 && calls + MOST_CALLS_OF_A_TEXT <= MOST_CALLS) {
                 text(random.nextInt(4) == 0);
             } else if (kind < 40) {
                 call(method(changing()));
@@ -122,8 +124,9 @@ public final class ModelTest {
     }
 
     private int fair(String name, int index) {
-        int garment = between(wide(), Math.max(line.garmentCount() - 1, 0));
-        int soon = line.minute() < 9900 ? line.minute() + between(0, 120) : between(0, 9999);
+        // The model is asked, as the line has no more than its 512 calls.
+        int garment = between(wide(), Math.max(model.garmentCount() - 1, 0));
+        int soon = model.minute() < 9900 ? model.minute() + between(0, 120) : between(0, 9999);
         switch (name) {
             case "addGarment":
                 return new int[] {between(1, 4), between(1, 40), between(1, 500), between(0, 60)}[index];
@@ -172,7 +175,7 @@ public final class ModelTest {
             text.append(';');
         }
         int most = random.nextInt(5) == 0 ? 45 : between(0, 12);
-        int garments = setup ? 0 : line.garmentCount();
+        int garments = setup ? 0 : model.garmentCount();
         for (int i = 0; i < most && text.length() < 640; i++) {
             boolean short1 = most == 45;
             String word = short1 ? "wind" : setup && i < 4 ? "garment" : WORDS[random.nextInt(WORDS.length)];
