@@ -187,6 +187,9 @@ public final class ErrorsTest {
         for (String word : WORDS) {
             badScript(1, "^" + word + "s 0 0 0 0;");
             badScript(1, "^a" + word + " 0 0 0 0;");
+            badScript(1, "^" + word + "z 0 0 0 0;");
+            badScript(1, "^z" + word + " 0 0 0 0;");
+            badScript(1, "^z" + word.substring(1) + " 0 0 0 0;");
             badScript(1, "^" + word.substring(0, word.length() - 1) + " 0 0 0 0;");
             badScript(1, "^" + word.substring(1) + " 0 0 0 0;");
             badScript(1, "^" + word.substring(0, 1) + " " + word.substring(1) + " 0 0 0 0;");

@@ -163,6 +163,20 @@ public final class TextsTest {
         }
     }
 
+    /** One byte more or less decides, whatever its place and its value are. */
+    static void p02OneByteAtTheEndInAnyPlace() {
+        for (int place = 0; place < 20; place++) {
+            for (int sign : new int[] {1, 0x7F, 0x80, 0xFF}) {
+                int[] words = new int[5];
+                words[place / 4] = sign << 8 * (place % 4);
+                ClothesLine full = lineWithSpaces(700);
+                DUE.is("to 700", full.feed(words[0], words[1], words[2], words[3], words[4]), -1);
+                ClothesLine line = lineWithSpaces(699);
+                DUE.is("to 699", line.feed(words[0], words[1], words[2], words[3], words[4]), 700);
+            }
+        }
+    }
+
     static void p02AllOfSevenHundredBytesAreRead() {
         DUE.is("a command at the end", Due.run(new ClothesLine(), " ".repeat(690) + "minutes 7;"), 1);
         DUE.is("a setup up to the end", Due.load(new ClothesLine(), HEAD + " ".repeat(668) + "minutes 7;"), 0);
