@@ -82,6 +82,25 @@ public final class AccountsTest {
         accounts("picked up", line, 360, 360, 0, 0);
     }
 
+    /** "Water leaves garments in no other way." than by sun and wind: all is in the shade here, and there is no wind */
+    static void p40WaterLeavesInNoOtherWay() {
+        ClothesLine line = Due.lineOf("line 9 9 24;wind 0;garment 2 19 99 9;shower 9 1 6;smoke 0 99;");
+        line.hang(0, 0, 1, 0);
+        line.passMinutes(9);
+        accounts("hung in the shade", line, 9, 9, 0, 0);
+        line.shift(0, 7);
+        line.takeDown(0);
+        line.hang(0, 3, 1, 0);
+        accounts("shifted, taken down, hung again", line, 9, 9, 0, 0);
+        DUE.is("it falls in the rain", line.passMinutes(1), 1);
+        accounts("fallen", line, 21, 21, 0, 0);
+        line.passMinutes(9);
+        line.pickUp(0);
+        line.hang(0, 3, 0, 1);
+        line.passMinutes(9);
+        accounts("picked up, hung again", line, 21, 21, 0, 0);
+    }
+
     static void p40UndoAndRestoreBringItBack() {
         ClothesLine line = new ClothesLine();
         line.save(0);

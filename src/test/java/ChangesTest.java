@@ -136,6 +136,42 @@ public final class ChangesTest {
         DUE.is("water", line.waterOf(3), 0);
     }
 
+    /** Wet, with a smell, fallen and picked up, so that it is dirty. */
+    private static ClothesLine wetSmellyAndDirty() {
+        return Due.lineOf("line 9 9 24;wind 1;garment 1 20 99 9;shower 0 3 2;smoke 0 9;hang 0 0 1 0;minutes 1;pick 0;"
+                + "hang 0 0 0 1;minutes 2;take 0;");
+    }
+
+    private static void wetSmellyAndDirtyStill(String when, ClothesLine line) {
+        DUE.is(when + ": water", line.waterOf(0), 15);
+        DUE.is(when + ": smell", line.smellOf(0), 3);
+        DUE.is(when + ": dirty", line.isDirty(0), true);
+        DUE.is(when + ": falls", line.fallsOf(0), 1);
+        DUE.is(when + ": came", line.waterCame(), 15);
+    }
+
+    static void p52WaterSmellAndDirtStay() {
+        ClothesLine line = wetSmellyAndDirty();
+        wetSmellyAndDirtyStill("before", line);
+        line.hang(0, 9, 2, 0);
+        wetSmellyAndDirtyStill("hung", line);
+    }
+
+    /** "3 a spot that it needs is occupied": each spot beside, on and behind another garment */
+    static void p52EachSpotBesideAnother() {
+        for (int width = 1; width <= 6; width++) {
+            for (int spot = 0; spot + width <= 24; spot++) {
+                ClothesLine line = Due.lineOf("line 9 9 0;wind 0;garment 4 1 9 0;garment " + width + " 1 9 0;hang 0 10 1 0;");
+                int asked = spot;
+                if (spot + width <= 10 || spot >= 14) {
+                    DUE.is("width " + width + " at " + spot, line.hang(1, spot, 1, 0), 20);
+                } else {
+                    DUE.throwsIt("width " + width + " at " + spot, Due.NO_STATE, () -> line.hang(1, asked, 1, 0));
+                }
+            }
+        }
+    }
+
     static void p52NoSuchGarment() {
         DUE.is("the tenth", Scenes.full().hang(9, 23, 1, 0), 20);
         DUE.refusesOtherGarments("hang", (line, garment) -> line.hang(garment, 9, 1, 0));
@@ -212,13 +248,11 @@ public final class ChangesTest {
         DUE.is("without water", dry.takeDown(1), 0);
     }
 
-    static void p53SmellAndDirtStay() {
-        ClothesLine line = Due.lineOf("line 9 9 0;wind 1;garment 1 20 40 9;hang 0 0 1 0;shower 0 1 1;minutes 1;pick 0;"
-                + "hang 0 0 0 1;smoke 0 9;minutes 5;");
-        line.takeDown(0);
-        DUE.is("smell", line.smellOf(0), 5);
-        DUE.is("dirty", line.isDirty(0), true);
-        DUE.is("falls", line.fallsOf(0), 1);
+    static void p53WaterSmellAndDirtStay() {
+        ClothesLine line = wetSmellyAndDirty();
+        line.hang(0, 9, 2, 0);
+        DUE.is("its water", line.takeDown(0), 15);
+        wetSmellyAndDirtyStill("taken down", line);
     }
 
     /** "Throws IllegalStateException if it is not on the line" */
@@ -253,6 +287,14 @@ public final class ChangesTest {
         DUE.is("water", line.waterOf(1), 120);
         DUE.is("the other", line.stateOf(0), ClothesLine.GROUND);
         DUE.is("undoCount", line.undoCount(), 1);
+    }
+
+    static void p54WaterAndSmellStay() {
+        ClothesLine line = Due.lineOf("line 9 9 24;wind 1;garment 1 20 99 5;shower 3 1 9;smoke 0 9;hang 0 0 1 0;minutes 4;");
+        DUE.is("fallen", line.stateOf(0) * 1000 + line.waterOf(0) * 10 + line.smellOf(0), 2114);
+        line.pickUp(0);
+        DUE.is("picked up", line.waterOf(0) * 10 + line.smellOf(0), 114);
+        DUE.is("falls", line.fallsOf(0), 1);
     }
 
     static void p54TenOnTheGround() {
@@ -373,6 +415,28 @@ public final class ChangesTest {
         DUE.refused("on its last spot", Due.NO_STATE, ClothesLine::new, line -> line.shift(0, 16));
         DUE.refused("around it", Due.NO_STATE, ClothesLine::new, line -> line.shift(0, 7));
         DUE.refused("within it", Due.NO_STATE, ClothesLine::new, line -> line.shift(1, 14));
+    }
+
+    static void p56EachSpotBesideAnother() {
+        for (int width = 1; width <= 6; width++) {
+            for (int spot = 0; spot + width <= 24; spot++) {
+                ClothesLine line = Due.lineOf("line 9 9 0;wind 0;garment 4 1 9 0;garment " + width + " 1 9 0;hang 1 0 1 0;"
+                        + "hang 0 10 1 0;");
+                int asked = spot;
+                if (spot + width <= 10 || spot >= 14) {
+                    DUE.is("width " + width + " to " + spot, line.shift(1, spot), 0);
+                } else {
+                    DUE.throwsIt("width " + width + " to " + spot, Due.NO_STATE, () -> line.shift(1, asked));
+                }
+            }
+        }
+    }
+
+    static void p56WaterSmellAndDirtStay() {
+        ClothesLine line = wetSmellyAndDirty();
+        line.hang(0, 9, 2, 0);
+        line.shift(0, 10);
+        wetSmellyAndDirtyStill("shifted", line);
     }
 
     static void p56NoSuchGarment() {

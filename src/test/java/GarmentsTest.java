@@ -346,6 +346,19 @@ public final class GarmentsTest {
         DUE.is("ground", line.garmentsIn(ClothesLine.GROUND), 3);
     }
 
+    /** "bit i stands for ... the garment with the number i" */
+    static void p35BitIStandsForTheGarmentI() {
+        for (int garment = 0; garment < 10; garment++) {
+            ClothesLine line = Due.lineOf("line 9 9 0;wind 0;" + "garment 1 20 99 9;".repeat(10) + "shower 0 1 1;");
+            line.hang(garment, 5, 1, 0);
+            DUE.is("line " + garment, line.garmentsIn(ClothesLine.LINE), 1 << garment);
+            DUE.is("all but " + garment, line.garmentsIn(ClothesLine.BASKET), 1023 - (1 << garment));
+            line.passMinutes(1);
+            DUE.is("ground " + garment, line.garmentsIn(ClothesLine.GROUND), 1 << garment);
+            DUE.is("fallen from the line " + garment, line.garmentsIn(ClothesLine.LINE), 0);
+        }
+    }
+
     static void p35NoneAndTen() {
         for (int state = 0; state <= 2; state++) {
             DUE.is("no garment " + state, Scenes.empty().garmentsIn(state), 0);
@@ -374,6 +387,15 @@ public final class GarmentsTest {
     /** A garment on the ground is never dry: without its water its pegs would have held it. */
     static void p36OnTheGroundTheyAreWet() {
         DUE.is("two on the ground, and one dry in the basket", Scenes.fallen().dryGarments(), 8);
+    }
+
+    /** "bit i stands for ... the garment with the number i" */
+    static void p36BitIStandsForTheGarmentI() {
+        for (int garment = 0; garment < 10; garment++) {
+            ClothesLine line = Due.lineOf("line 0 0 0;wind 0;" + "garment 1 1 9 1;".repeat(garment) + "garment 1 1 9 0;"
+                    + "garment 1 1 9 1;".repeat(9 - garment));
+            DUE.is("dry " + garment, line.dryGarments(), 1 << garment);
+        }
     }
 
     static void p36NoneAndAll() {

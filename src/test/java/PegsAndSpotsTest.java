@@ -120,6 +120,15 @@ public final class PegsAndSpotsTest {
         DUE.is("0 to 22", line.freeSpots(), 0x7FFFFF);
     }
 
+    /** "bit i stands for the spot ... with the number i" */
+    static void p17BitIStandsForTheSpotI() {
+        ClothesLine line = Due.lineOf("line 9 9 0;wind 0;garment 1 1 1 0;hang 0 0 1 0;");
+        for (int spot = 0; spot < 24; spot++) {
+            line.shift(0, spot);
+            DUE.is("all but " + spot, line.freeSpots(), ALL - (1 << spot));
+        }
+    }
+
     static void p17AFallenGarmentOccupiesNone() {
         ClothesLine line = Due.lineOf("line 9 9 0;wind 0;garment 3 20 99 0;hang 0 4 1 0;shower 0 1 4;");
         DUE.is("it hangs", line.freeSpots(), ALL & ~0x70);
@@ -171,6 +180,19 @@ public final class PegsAndSpotsTest {
         int[] due = {-1, -1, 0, 0, 0, -1, -1, -1, 1, -1, -1, -1, 2, 2, 2, 2, 2, -1, -1, -1, -1, -1, -1, -1};
         for (int spot = 0; spot < 24; spot++) {
             DUE.is("garmentAt " + spot, line.garmentAt(spot), due[spot]);
+        }
+    }
+
+    /** "On the line it occupies as many consecutive spots as its width tells; its spot is the first of these." */
+    static void p19AsManySpotsAsItsWidthTells() {
+        for (int width = 1; width <= 6; width++) {
+            for (int first = 0; first + width <= 24; first++) {
+                ClothesLine line = Due.lineOf("line 9 9 0;wind 0;garment " + width + " 1 1 0;hang 0 " + first + " 1 0;");
+                for (int spot = 0; spot < 24; spot++) {
+                    boolean occupied = spot >= first && spot < first + width;
+                    DUE.is("width " + width + " from " + first + " at " + spot, line.garmentAt(spot), occupied ? 0 : -1);
+                }
+            }
         }
     }
 

@@ -225,6 +225,16 @@ public final class PredictionsTest {
                 + "hang 2 6 1 0;shower 40 1 10;");
     }
 
+    /** "bit i stands for ... the garment with the number i" */
+    static void p49BitIStandsForTheGarmentI() {
+        for (int garment = 0; garment < 10; garment++) {
+            ClothesLine line = Due.lineOf("line 9 9 0;wind 0;" + "garment 1 20 99 0;".repeat(10) + "shower 9 1 10;");
+            line.hang(garment, 5, 1, 0);
+            line.hang((garment + 1) % 10, 6, 0, 1);
+            DUE.is("at risk " + garment, line.garmentsAtRisk(), 1 << garment);
+        }
+    }
+
     static void p49NothingChanges() {
         DUE.changesNothing("garmentsAtRisk", Scenes::busy, ClothesLine::garmentsAtRisk);
         DUE.changesNothing("garmentsAtRisk of three", PredictionsTest::threeAtRisk, ClothesLine::garmentsAtRisk);

@@ -1,3 +1,7 @@
+import java.lang.reflect.Method;
+import java.lang.reflect.Modifier;
+import java.util.Arrays;
+import java.util.List;
 import java.util.NoSuchElementException;
 import java.util.function.Consumer;
 import java.util.function.Supplier;
@@ -43,6 +47,33 @@ public final class UndoAndOutputTest {
         undone("setWind to the same wind", line -> line.setWind(0, 1));
         undone("a script without commands", line -> Due.run(line, ""));
         undone("a script that alters nothing", line -> Due.run(line, "wind 0 1;"));
+    }
+
+    /** A question is no change, and leaves all as it was: every call of the face but those that are told to do something. */
+    static void p61AQuestionIsNoChange() {
+        List<String> doing = List.of("feed", "loadSetup", "runScript", "addGarment", "hang", "takeDown", "pickUp", "wash",
+                "shift", "addShower", "addSmoke", "setWind", "passMinutes", "undo", "save", "restore", "writeLine");
+        int questions = 0;
+        for (Method method : ClothesLine.class.getDeclaredMethods()) {
+            if (Modifier.isPublic(method.getModifiers()) && !doing.contains(method.getName())) {
+                questions++;
+                for (int argument = 0; argument <= 3; argument++) {
+                    int asked = argument;
+                    DUE.changesNothing(method.getName() + " " + asked, Scenes::busy, line -> ask(line, method, asked));
+                }
+            }
+        }
+        DUE.is("questions", questions, 47);
+    }
+
+    private static void ask(ClothesLine line, Method question, int argument) {
+        Object[] arguments = new Object[question.getParameterCount()];
+        Arrays.fill(arguments, argument);
+        try {
+            question.invoke(line, arguments);
+        } catch (ReflectiveOperationException e) {
+            // A garment or a state of this number that there is not: it is refused, and that changes nothing too.
+        }
     }
 
     static void p61AFallIsUndone() {
